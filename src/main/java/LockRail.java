@@ -25,12 +25,16 @@ public final class LockRail {
     private static final int TOOLS = 3;
     private static final int MOST_BRIGHT = 99;
     private static final int MOST_PRICE = 999;
+    private static final int MOST_SECONDS = 999;
     private static final int MOST_WORTH = 9999;
+    private static final int MOST_FEARS = 99;
     private static final int IMAGES = 3;
     private static final int MOST_ROUNDS = 30;
     private static final int MOST_CHANGES = 60;
     private static final int MOST_SEED = 2_000_000_000;
     private static final int MOST_YEARS = 100;
+    /** Above every COST and LOSS. */
+    private static final long ABOVE_ALL = 0x7FFF_FFFF_FFFF_FFFFL;
     /** Of a pair's number, what the one's OPTION counts. */
     private static final int PAIR_STEP = 100;
 
@@ -217,7 +221,7 @@ public final class LockRail {
             return NONE_SUCH;
         }
         trial.copyFrom(rail);
-        return leastOption(trial, bike, 0, Long.MAX_VALUE);
+        return leastOption(trial, bike, false);
     }
 
     public int restless() {
@@ -227,7 +231,7 @@ public final class LockRail {
         trial.copyFrom(rail);
         int found = 0;
         for (int bike = 0; bike < rail.bikes.count; bike++) {
-            if (cheaperOption(trial, bike) != trial.bikes.optionOf(bike)) {
+            if (leastOption(trial, bike, true) != trial.bikes.optionOf(bike)) {
                 found++;
             }
         }
@@ -282,7 +286,7 @@ public final class LockRail {
         trial.copyFrom(rail);
         int options = trial.options();
         int found = 0;
-        long least = Long.MAX_VALUE;
+        long least = ABOVE_ALL;
         for (int first = 0; first < options; first++) {
             trial.bikes.setOption(one, first);
             for (int second = 0; second < options; second++) {
@@ -381,7 +385,7 @@ public final class LockRail {
         }
         trial.copyFrom(rail);
         int found = NONE;
-        long least = Long.MAX_VALUE;
+        long least = ABOVE_ALL;
         for (int place = 0; place < rail.places; place++) {
             int stands = rail.bikes.standingAt(place);
             if (stands != NONE && stands != bike) {
@@ -402,7 +406,7 @@ public final class LockRail {
             return NONE_SUCH;
         }
         int found = NONE;
-        long least = Long.MAX_VALUE;
+        long least = ABOVE_ALL;
         for (int place = 0; place < rail.places; place++) {
             long loss = lossLit(place, bright);
             if (loss < least) {
@@ -538,7 +542,7 @@ public final class LockRail {
             return NONE_SUCH;
         }
         int found = NONE;
-        long least = Long.MAX_VALUE;
+        long least = ABOVE_ALL;
         for (int lock = NONE; lock < rail.locks.count; lock++) {
             long together = costByLaw(lock);
             if (together < least) {
@@ -779,16 +783,21 @@ public final class LockRail {
     }
 
     /**
-     * The OPTION by which a BIKE's COST is least, the first of several; the one found ahead, if
-     * none is below its COST. The rail stays as it was.
+     * The OPTION by which a BIKE's COST is least, the first of several; or, if it may stay, the
+     * one it has where no other costs less. The rail stays as it was.
      */
-    private int leastOption(Rail on, int bike, int foundAhead, long costAhead) {
+    private int leastOption(Rail on, int bike, boolean mayStay) {
         int had = on.bikes.optionOf(bike);
-        int found = foundAhead;
-        long least = costAhead;
+        int found = had;
+        long least = ABOVE_ALL;
+        if (mayStay) {
+            night.play(on);
+            least = night.costOf(on, bike, Night.COST);
+        }
         for (int option = 0; option < on.options(); option++) {
             on.bikes.setOption(bike, option);
-            long there = costOn(on, bike);
+            night.play(on);
+            long there = night.costOf(on, bike, Night.COST);
             if (there < least) {
                 least = there;
                 found = option;
@@ -798,31 +807,20 @@ public final class LockRail {
         return found;
     }
 
-    /** A BIKE's best OPTION if it costs less than the one it has, else the one it has. */
-    private int cheaperOption(Rail on, int bike) {
-        return leastOption(on, bike, on.bikes.optionOf(bike), costOn(on, bike));
-    }
-
     /** SETTLING: how many rounds till one changed nothing; one more than the most, if none did. */
     private int roundsOn(Rail on, int most) {
         for (int round = 1; round <= most; round++) {
-            if (!roundChanges(on)) {
+            boolean changed = false;
+            for (int bike = 0; bike < on.bikes.count; bike++) {
+                int option = leastOption(on, bike, true);
+                changed |= option != on.bikes.optionOf(bike);
+                on.bikes.setOption(bike, option);
+            }
+            if (!changed) {
                 return round;
             }
         }
         return most + 1;
-    }
-
-    private boolean roundChanges(Rail on) {
-        boolean changed = false;
-        for (int bike = 0; bike < on.bikes.count; bike++) {
-            int option = cheaperOption(on, bike);
-            if (option != on.bikes.optionOf(bike)) {
-                on.bikes.setOption(bike, option);
-                changed = true;
-            }
-        }
-        return changed;
     }
 
     /** BETTERING: how many changes there were. */
@@ -836,14 +834,16 @@ public final class LockRail {
     }
 
     private boolean changeBetters(Rail on) {
-        long least = allOn(on, Night.COST);
+        night.play(on);
+        long least = night.costOfAll(on, Night.COST);
         int changed = NONE;
         int changedTo = 0;
         for (int bike = 0; bike < on.bikes.count; bike++) {
             int had = on.bikes.optionOf(bike);
             for (int option = 0; option < on.options(); option++) {
                 on.bikes.setOption(bike, option);
-                long together = allOn(on, Night.COST);
+                night.play(on);
+                long together = night.costOfAll(on, Night.COST);
                 if (together < least) {
                     least = together;
                     changed = bike;
@@ -917,7 +917,7 @@ public final class LockRail {
     private int carelessOption(int bike, int premium, int pays) {
         trial.copyFrom(rail);
         int found = 0;
-        long least = Long.MAX_VALUE;
+        long least = ABOVE_ALL;
         for (int option = 0; option < trial.options(); option++) {
             trial.bikes.setOption(bike, option);
             long there = coveredOn(trial, bike, premium, pays);
@@ -950,7 +950,8 @@ public final class LockRail {
         private static final int WORD = 1;
         private static final int NUMBER = 2;
         private static final int SIGN = 3;
-        private static final int NO_TOKEN = 4;
+        private static final int BLANK = 4;
+        private static final int NO_TOKEN = 5;
         /** Above every bound, so that a long number stays out of them and never wraps round. */
         private static final int TOO_MUCH = 1_000_000;
 
@@ -973,39 +974,40 @@ public final class LockRail {
             step();
         }
 
-        /** Goes on to the next TOKEN. */
+        /** Goes on to the next TOKEN: as many letters or digits as there are, or one sign. */
         private void step() {
             spot = behind;
-            while (spot < length && isBlank(bytes[spot])) {
+            while (spot < length && kindAt(spot) == BLANK) {
                 spot++;
             }
-            behind = spot;
-            if (spot >= length) {
-                kind = END;
-            } else if (isLetter(bytes[spot])) {
-                stepWord();
-            } else if (isDigit(bytes[spot])) {
-                stepNumber();
-            } else {
-                kind = bytes[spot] == ';' ? SIGN : NO_TOKEN;
-                behind = spot + 1;
-            }
-        }
-
-        private void stepWord() {
-            kind = WORD;
-            while (behind < length && isLetter(bytes[behind])) {
-                behind++;
-            }
-        }
-
-        private void stepNumber() {
-            kind = NUMBER;
+            kind = kindAt(spot);
             number = 0;
-            while (behind < length && isDigit(bytes[behind])) {
-                number = Math.min(TOO_MUCH, 10 * number + bytes[behind] - '0');
+            behind = spot;
+            boolean goesOn = kind != END;
+            while (goesOn && behind < length) {
+                if (kind == NUMBER) {
+                    number = Math.min(TOO_MUCH, 10 * number + bytes[behind] - '0');
+                }
                 behind++;
+                goesOn = (kind == WORD || kind == NUMBER) && kindAt(behind) == kind;
             }
+        }
+
+        private int kindAt(int at) {
+            if (at < 0 || at >= length) {
+                return END;
+            }
+            byte sign = bytes[at];
+            if (sign >= 'a' && sign <= 'z') {
+                return WORD;
+            }
+            if (sign >= '0' && sign <= '9') {
+                return NUMBER;
+            }
+            if (sign == ' ' || sign == '\n') {
+                return BLANK;
+            }
+            return sign == ';' ? SIGN : NO_TOKEN;
         }
 
         private boolean isWord(String word) {
@@ -1019,23 +1021,11 @@ public final class LockRail {
             }
             return true;
         }
-
-        private static boolean isBlank(byte sign) {
-            return sign == ' ' || sign == '\n';
-        }
-
-        private static boolean isLetter(byte sign) {
-            return sign >= 'a' && sign <= 'z';
-        }
-
-        private static boolean isDigit(byte sign) {
-            return sign >= '0' && sign <= '9';
-        }
     }
 
     /** Reads the tape from left to right, so that the first FAULT it meets is the first by place. */
     private static final class Reader {
-        private static final int NO_PLACE_FOR_IT = 1;
+        private static final int CAN_NOT_STAND = 1;
         private static final int NOT_AS_SAID = 2;
         private static final int TOO_MANY = 3;
 
@@ -1058,22 +1048,37 @@ public final class LockRail {
             if (rail.lines == 0) {
                 readRail(rail);
             } else if (tape.isWord("lamp")) {
+                readHead(rail.lamps.count < MOST_LAMPS, TOO_MANY);
                 readLamp(rail);
             } else if (tape.isWord("lock")) {
+                readHead(rail.locks.count < MOST_LOCKS, TOO_MANY);
                 readLock(rail);
             } else if (tape.isWord("bike")) {
+                readHead(rail.bikes.count < MOST_BIKES, TOO_MANY);
                 readBike(rail);
             } else if (tape.isWord("thief")) {
+                readHead(rail.thieves.count < MOST_THIEVES, TOO_MANY);
                 readThief(rail);
             } else if (tape.isWord("mark")) {
+                readHead(!rail.markTold, NOT_AS_SAID);
                 readMark(rail);
             } else if (tape.isWord("watch")) {
+                readHead(!rail.watchTold, NOT_AS_SAID);
                 readWatch(rail);
             } else {
-                fail(NO_PLACE_FOR_IT);
+                fail(CAN_NOT_STAND);
             }
             readSign();
             rail.lines++;
+        }
+
+        /** A LINE's first word, where there is room for one more such LINE. */
+        private void readHead(boolean hasRoom, int faultWithout) {
+            if (hasRoom) {
+                tape.step();
+            } else {
+                fail(faultWithout);
+            }
         }
 
         private void readRail(Rail rail) {
@@ -1085,7 +1090,6 @@ public final class LockRail {
         }
 
         private void readLamp(Rail rail) {
-            readHead("lamp", rail.lamps.count < MOST_LAMPS);
             readWord("at");
             int place = readNumber(0, rail.places - 1);
             readWord("bright");
@@ -1096,26 +1100,27 @@ public final class LockRail {
         }
 
         private void readLock(Rail rail) {
-            readHead("lock", rail.locks.count < MOST_LOCKS);
             readWord("price");
             int price = readNumber(0, MOST_PRICE);
             readWord("cuts");
-            int first = readNumber(1, 999);
-            int second = readNumber(1, 999);
-            int third = readNumber(1, 999);
+            int first = readNumber(1, MOST_SECONDS);
+            int second = readNumber(1, MOST_SECONDS);
+            int third = readNumber(1, MOST_SECONDS);
             if (fault == 0) {
                 rail.locks.add(price, first, second, third);
             }
         }
 
         private void readBike(Rail rail) {
-            readHead("bike", rail.bikes.count < MOST_BIKES);
             readWord("worth");
             int worth = readNumber(0, MOST_WORTH);
             readWord("seems");
             int seems = readNumber(0, MOST_WORTH);
             readWord("at");
-            int place = readFreePlace(rail);
+            if (tape.kind == Tape.NUMBER && rail.bikes.standingAt(tape.number) != NONE) {
+                fail(NOT_AS_SAID);
+            }
+            int place = readNumber(0, rail.places - 1);
             int lock = NONE;
             if (readIf("lock")) {
                 lock = readNumber(0, rail.locks.count - 1);
@@ -1127,13 +1132,12 @@ public final class LockRail {
         }
 
         private void readThief(Rail rail) {
-            readHead("thief", rail.thieves.count < MOST_THIEVES);
             readWord("tool");
             int tool = readNumber(0, TOOLS - 1);
             readWord("comes");
             int comes = readNumber(0, 100);
             readWord("fears");
-            int fears = readNumber(0, 99);
+            int fears = readNumber(0, MOST_FEARS);
             int kind = Thieves.JUST;
             int just = NONE;
             if (readIf("best")) {
@@ -1150,7 +1154,6 @@ public final class LockRail {
         }
 
         private void readMark(Rail rail) {
-            readOnce("mark", rail.markTold);
             readWord("price");
             rail.markPrice = readNumber(0, MOST_PRICE);
             readWord("known");
@@ -1160,62 +1163,41 @@ public final class LockRail {
         }
 
         private void readWatch(Rail rail) {
-            readOnce("watch", rail.watchTold);
             readWord("wage");
-            rail.wage = readNumber(0, 999);
+            rail.wage = readNumber(0, MOST_PRICE);
             readWord("adds");
-            rail.adds = readNumber(0, 99);
+            rail.adds = readNumber(0, MOST_BRIGHT);
             rail.watchTold = true;
         }
 
-        /** A LINE's word, of which there can be so many and no more. */
-        private void readHead(String word, boolean hasRoom) {
-            if (!hasRoom) {
-                fail(TOO_MANY);
-            }
-            readWord(word);
-        }
-
-        private void readOnce(String word, boolean toldAlready) {
-            if (toldAlready) {
-                fail(NOT_AS_SAID);
-            }
-            readWord(word);
-        }
-
         private void readWord(String word) {
-            if (!readIf(word)) {
-                fail(NO_PLACE_FOR_IT);
+            if (fault == 0 && tape.isWord(word)) {
+                tape.step();
+            } else {
+                fail(CAN_NOT_STAND);
             }
         }
 
+        /** A word that may be there or not. */
         private boolean readIf(String word) {
-            boolean isIt = fault == 0 && tape.isWord(word);
-            if (isIt) {
+            boolean isThere = fault == 0 && tape.isWord(word);
+            if (isThere) {
                 tape.step();
             }
-            return isIt;
+            return isThere;
         }
 
         private void readSign() {
-            if (tape.kind != Tape.SIGN) {
-                fail(NO_PLACE_FOR_IT);
-            }
-            if (fault == 0) {
+            if (fault == 0 && tape.kind == Tape.SIGN) {
                 tape.step();
+            } else {
+                fail(CAN_NOT_STAND);
             }
-        }
-
-        private int readFreePlace(Rail rail) {
-            if (tape.kind == Tape.NUMBER && rail.bikes.standingAt(tape.number) != NONE) {
-                fail(NOT_AS_SAID);
-            }
-            return readNumber(0, rail.places - 1);
         }
 
         private int readNumber(int least, int most) {
             if (tape.kind != Tape.NUMBER) {
-                fail(NO_PLACE_FOR_IT);
+                fail(CAN_NOT_STAND);
             } else if (tape.number < least || tape.number > most) {
                 fail(NOT_AS_SAID);
             }
@@ -1271,14 +1253,6 @@ public final class LockRail {
                 cuts[TOOLS * count + 2] = third;
                 count++;
             }
-        }
-
-        private int secondsOf(int lock, int tool) {
-            return lock == NONE ? 0 : cuts[TOOLS * lock + tool];
-        }
-
-        private int priceOf(int lock) {
-            return lock == NONE ? 0 : price[lock];
         }
 
         private void copyFrom(Locks other) {
@@ -1508,7 +1482,8 @@ public final class LockRail {
         }
 
         private int troubleOf(int thief, int bike, int light) {
-            int seconds = locks.secondsOf(bikes.lock[bike], thieves.tool[thief]);
+            int lock = bikes.lock[bike];
+            int seconds = lock == NONE ? 0 : locks.cuts[TOOLS * lock + thieves.tool[thief]];
             return seconds * thieves.fears[thief] * (1 + light) / 100;
         }
 
@@ -1522,7 +1497,9 @@ public final class LockRail {
         }
 
         private long paidFor(int bike) {
-            return 1000L * (locks.priceOf(bikes.lock[bike]) + (bikes.marked[bike] ? markPrice : 0));
+            int lock = bikes.lock[bike];
+            int price = lock == NONE ? 0 : locks.price[lock];
+            return 1000L * (price + (bikes.marked[bike] ? markPrice : 0));
         }
 
         private long wages() {
@@ -1572,21 +1549,14 @@ public final class LockRail {
                 return;
             }
             int slot = state * MIX >>> TABLE_SHIFT;
-            for (int tries = 0; tries < TABLE; tries++) {
+            for (int tries = 0; tries < TABLE && table[slot] != 0; tries++) {
                 int at = table[slot] - 1;
-                if (at < 0) {
-                    putNew(state, more, slot);
-                    return;
-                }
                 if (states[at] == state) {
                     parts[at] += more;
                     return;
                 }
                 slot = slot + 1 & TABLE - 1;
             }
-        }
-
-        private void putNew(int state, long more, int slot) {
             if (size < MOST_STATES) {
                 states[size] = state;
                 parts[size] = more;
@@ -1705,9 +1675,11 @@ public final class LockRail {
         }
 
         private void play(Rail rail) {
-            lookAt(rail);
+            lookAtBaited(rail, 0);
             begin();
-            playThieves(rail);
+            for (int thief = 0; thief < rail.thieves.count; thief++) {
+                letCome(thief, rail.thieves.comes[thief]);
+            }
         }
 
         private void begin() {
@@ -1716,12 +1688,6 @@ public final class LockRail {
             }
             now.wipe();
             now.put(0, ALL_PARTS);
-        }
-
-        private void playThieves(Rail rail) {
-            for (int thief = 0; thief < rail.thieves.count; thief++) {
-                letCome(thief, rail.thieves.comes[thief]);
-            }
         }
 
         private void letCome(int thief, int comes) {
@@ -1773,7 +1739,9 @@ public final class LockRail {
             caughtOf100 = caught;
             begin();
             for (int n = 0; n < rail.nights; n++) {
-                playThieves(rail);
+                for (int thief = 0; thief < rail.thieves.count; thief++) {
+                    letCome(thief, rail.thieves.comes[thief]);
+                }
                 bringBack();
             }
         }
@@ -1862,15 +1830,17 @@ public final class LockRail {
         /** The least a BAIT must seem so that a THIEF takes it; more than it can, if he never does. */
         private int leastLure(Rail rail, int thief) {
             int bike = pick(thief, 0);
-            switch (rail.thieves.kind[thief]) {
-                case Thieves.BEST:
-                    return bike == NONE ? 1 : netOf(rail, thief, bike) + 1;
-                case Thieves.ANY:
-                    boolean free = bike != NONE && rail.troubleOf(thief, bike, light[bike]) == 0;
-                    return free ? MOST_WORTH + 1 : 1;
-                default:
-                    return MOST_WORTH + 1;
+            int kind = rail.thieves.kind[thief];
+            if (kind == Thieves.JUST) {
+                return MOST_WORTH + 1;
             }
+            if (bike == NONE) {
+                return 1;
+            }
+            if (kind == Thieves.BEST) {
+                return netOf(rail, thief, bike) + 1;
+            }
+            return rail.troubleOf(thief, bike, light[bike]) == 0 ? MOST_WORTH + 1 : 1;
         }
 
         /** A YEAR drawn from a seed, by what was learnt of the rail: how many BIKES were taken. */
@@ -1896,7 +1866,7 @@ public final class LockRail {
             int gone = 0;
             for (int thief = 0; thief < thieves; thief++) {
                 int bike = (come >> thief & 1) == 1 ? pick(thief, gone) : NONE;
-                if (bike != NONE) {
+                if (bike != NONE && bike != bait) {
                     gone |= 1 << bike;
                     year.taken[bike]++;
                     year.took[thief]++;
