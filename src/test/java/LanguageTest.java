@@ -2,6 +2,7 @@ import java.lang.reflect.Constructor;
 import java.lang.reflect.Field;
 import java.lang.reflect.Method;
 import java.lang.reflect.Modifier;
+import java.nio.file.DirectoryStream;
 import java.nio.file.Files;
 import java.nio.file.Path;
 import java.util.ArrayList;
@@ -40,7 +41,19 @@ public final class LanguageTest {
         library(source);
         face(document);
         sizes(source);
+        headings();
         due.close();
+    }
+
+    /** Not a rule of the language: each heading of the document has its sentences tested in one of the tests. */
+    private static void headings() throws Exception {
+        Set<String> tested = new TreeSet<>();
+        try (DirectoryStream<Path> tests = Files.newDirectoryStream(Path.of("src/test/java"), "*SentencesTest.java")) {
+            for (Path test : tests) tested.addAll(found("(?<=doc\\.of\\(\")\\w+(?=\"\\))", Files.readString(test)));
+        }
+        Set<String> wanted = Sentences.headings().keySet();
+        due.is("headings of the document: 60 promises, 7 terms", 67, wanted.size());
+        due.is("each has its sentences tested: " + wanted + ", got " + tested, 1, tested.equals(new TreeSet<>(wanted)) ? 1 : 0);
     }
 
     private static void words(String source) {
