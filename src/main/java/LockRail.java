@@ -1323,7 +1323,10 @@ public final class LockRail {
             System.arraycopy(other.seems, 0, seems, 0, seems.length);
             System.arraycopy(other.place, 0, place, 0, place.length);
             System.arraycopy(other.lock, 0, lock, 0, lock.length);
-            System.arraycopy(other.marked, 0, marked, 0, marked.length);
+            // One by one, as only arrays of numbers may be copied whole (rule 4 of LANGUAGE.md).
+            for (int bike = 0; bike < MOST_BIKES; bike++) {
+                marked[bike] = other.marked[bike];
+            }
         }
     }
 

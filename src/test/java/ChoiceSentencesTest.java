@@ -126,6 +126,11 @@ public final class ChoiceSentencesTest {
         doc.is("none is less", 0, x.better(60));
         doc.is("no change of one is less: TWINS", 0, Due.rail(TWINS).better(60));
         doc.is("no change of one is less: STRONG", 0, Due.rail(STRONG).better(60));
+        LockRail without = Due.rail(TWINS.replace("comes 50", "comes 0"));
+        without.option(0, 2);
+        without.option(1, 3);
+        doc.is("a LOCK less is a change too", 2, without.better(60));
+        doc.same("without both", "0 0 ", options(without));
         // A LOCK that costs just what is lost, and one that costs 1 less.
         String one = "rail places 1 nights 1;lock price 10 cuts 999 999 999;bike worth %d seems 60 at 0;thief tool 0 comes 100 fears 50 any;";
         doc.is("as much", 0, Due.rail(String.format(one, 10)).better(60));

@@ -77,6 +77,9 @@ public final class LanguageTest {
             if (!allowed.contains(use) && !mine.contains(use.substring(0, use.indexOf('.')))) others.add(use);
         }
         none("4: only what is listed", others);
+        List<String> notNumbers = new ArrayList<>();
+        for (String name : found("(?<=boolean\\[\\] )\\w+(?= = new)", source)) notNumbers.addAll(found("(arraycopy|fill|copyOf)\\([^;]*\\b" + name + "\\b", source));
+        none("4: only arrays of numbers are copied whole", notNumbers);
     }
 
     private static void face(String document) {

@@ -200,6 +200,22 @@ public final class NightSentencesTest {
         doc.is("the one that chooses first", WHOLE, Due.rail(order + best + just).part(2));
         doc.is("the one that chooses last", WHOLE, Due.rail(order + just + best).part(3));
 
+        // Behind a NIGHT of many SETS the next one has none of them left over.
+        for (int thieves = 0; thieves <= 6; thieves++) {
+            LockRail fewer = Due.rail("rail places 3 nights 1;" + bikes(3) + "thief tool 0 comes 50 fears 0 just 2;thief tool 0 comes 50 fears 0 just 1;"
+                + "thief tool 0 comes 50 fears 0 just 0;");
+            fewer.part(0);
+            Due.feed(fewer, "rail places 3 nights 1;" + bikes(3) + "thief tool 0 comes 50 fears 0 just 0;".repeat(thieves));
+            fewer.rail();
+            long parts0 = 0;
+            long many0 = 0;
+            for (int set = 0; set < 8; set++) parts0 += fewer.part(set);
+            for (int n = 0; n < 4; n++) many0 += fewer.many(n);
+            doc.is("together, part, " + thieves + " thieves", WHOLE, parts0);
+            doc.is("together, many, " + thieves + " thieves", WHOLE, many0);
+            for (int set = 2; set < 8; set++) doc.is("part(" + set + "), " + thieves + " thieves", 0, fewer.part(set));
+        }
+
         doc.says("of each SET the PARTS times comes by 100, cut, with him come (the BIKE he takes goes to the SET, if there is one),");
         LockRail six = Due.rail(SIX);
         for (int k = 0; k <= 6; k++) doc.is("the first " + k, choose(6, k) * power(99, 6 - k), six.part((1 << k) - 1));

@@ -112,6 +112,8 @@ public final class PlaceSentencesTest {
         doc.is("all together", 60, s.bait(10, 0, 100));
         LockRail most = Due.rail(six.toString().replace("nights 1;", "nights 60;").replace("worth 1 ", "worth 9999 ") + "thief tool 0 comes 100 fears 0 any;".repeat(6));
         doc.is("the most there is", 3_599_640_000L, most.bait(19, 9999, 100));
+        doc.is("999,999,999,999 PARTS", 999, Due.rail("rail places 2 nights 1;bike worth 1 seems 1 at 0;" + "thief tool 0 comes 99 fears 0 just 0;".repeat(6))
+            .bait(1, 0, 100));
     }
 
     private static void move() {
@@ -181,16 +183,26 @@ public final class PlaceSentencesTest {
         doc.of("34");
         doc.says("The PLACE (its own, or one where none stands) by which COST of a BIKE is least, the first of several.");
         doc.is("the last", 4, Due.rail(String.format(CORNER, "")).where(0));
-        LockRail full = Due.rail(String.format(CORNER, "bike worth 10 seems 1 at 4;"));
+        LockRail full = Due.rail(String.format(CORNER, "bike worth 10 seems 0 at 4;"));
         doc.is("where another stands it can't", 0, full.where(0));
-        LockRail first = Due.rail(String.format(CORNER, "bike worth 10 seems 1 at 4;bike worth 10 seems 1 at 0;"));
+        LockRail first = Due.rail(String.format(CORNER, "bike worth 10 seems 0 at 4;bike worth 10 seems 0 at 0;"));
         doc.is("the first where none stands", 1, first.where(0));
-        LockRail own = Due.rail(String.format(CORNER, "bike worth 10 seems 1 at 4;bike worth 10 seems 1 at 0;bike worth 10 seems 1 at 1;"));
+        LockRail own = Due.rail(String.format(CORNER, "bike worth 10 seems 0 at 4;bike worth 10 seems 0 at 0;bike worth 10 seems 0 at 1;"));
         doc.is("its own, ahead of another just as good", 2, own.where(0));
         LockRail stands = Due.rail(String.format(CORNER.replace("at 2 lock", "at 4 lock"), ""));
         doc.is("its own, the best", 4, stands.where(0));
         LockRail none = Due.rail("rail places 1 nights 1;bike worth 1 seems 1 at 0;");
         doc.is("the only one", 0, none.where(0));
+        // Behind the last PLACE it would be brighter than on those that are free.
+        LockRail beyond = Due.rail("rail places 4 nights 1;lamp at 3 bright 3;lock price 0 cuts 100 100 100;bike worth 9 seems 120 at 0 lock 0;"
+            + "bike worth 9 seems 0 at 2;bike worth 9 seems 0 at 3;thief tool 0 comes 100 fears 50 any;");
+        doc.is("none behind the last", 0, beyond.where(0));
+        LockRail unlocked = Due.rail(String.format(CORNER, ""));
+        unlocked.option(0, 0);
+        doc.is("as it is now, without a LOCK", 0, unlocked.where(0));
+        LockRail moved = Due.rail(String.format(CORNER, "bike worth 10 seems 0 at 4;"));
+        moved.move(1, 0);
+        doc.is("as the other stands now", 4, moved.where(0));
         for (int bike = 0; bike < 3; bike++) {
             int one = bike;
             doc.asks("where(" + bike + ")", y -> y.where(one));
@@ -219,6 +231,9 @@ public final class PlaceSentencesTest {
         doc.is("beside one that does it already", 3, Due.rail(two + "lamp at 0 bright 1;").lamp(1));
         doc.is("beside one that does it already at the other", 0, Due.rail(two + "lamp at 3 bright 1;").lamp(1));
         doc.is("no BIKES", 0, Due.rail("rail places 20 nights 1;").lamp(5));
+        // Any LIGHT on BIKE 0 turns the THIEF to the dear one; behind the last PLACE a LAMP would throw none on it.
+        doc.is("none behind the last", 0, Due.rail("rail places 2 nights 1;lock price 1 cuts 100 1 1;lock price 1 cuts 20 1 1;bike worth 1 seems 90 at 0 lock 0;"
+            + "bike worth 9 seems 35 at 1 lock 1;thief tool 0 comes 100 fears 50 best;").lamp(2));
         for (int bright : new int[] {0, 1, 3, 50, 99}) doc.asks("lamp(" + bright + ")", y -> y.lamp(bright));
         doc.says("-2: there is no such number, no RAIL.");
         doc.is("lamp(100)", -2, x.lamp(100));
@@ -320,6 +335,10 @@ public final class PlaceSentencesTest {
             doc.is("the most first, of " + order, 3, Due.rail(text.replace("wage 200", "wage 251")).enough());
         }
         doc.is("one is enough, though another has more", 1, Due.rail(turned(50)).enough());
+        String thousand = "rail places 1 nights 1;lock price 1 cuts 100 1 1;bike worth 1 seems 60 at 0 lock 0;watch wage 1 adds 1;thief tool 0 comes 90 fears 50 just 0;"
+            + "thief tool 0 comes %d fears 50 just 0;";
+        doc.is("1,000 is as much as 1,000", 1, Due.rail(String.format(thousand, 100)).enough());
+        doc.is("999 is not", -1, Due.rail(String.format(thousand, 99)).enough());
         LockRail there = Due.rail(kept(200));
         there.watch(true);
         doc.is("with him there", 2, there.enough());
@@ -366,6 +385,9 @@ public final class PlaceSentencesTest {
         doc.is("of several THIEVES none", 1, Due.rail("rail places 1 nights 1;bike worth 1 seems 9 at 0;mark price 1 known 95;"
             + "thief tool 0 comes 1 fears 0 best;thief tool 0 comes 1 fears 99 any;").marks());
         doc.is("one who takes just the other", 2, Due.rail(marked(2, 9, "mark price 1 known 100;", "thief tool 0 comes 1 fears 0 just 0;")).marks());
+        LockRail locked = Due.rail("rail places 1 nights 1;lock price 1 cuts 100 1 1;bike worth 1 seems 9 at 0;mark price 1 known 100;thief tool 0 comes 1 fears 99 any;");
+        locked.option(0, 2);
+        doc.is("as it is locked now", 0, locked.marks());
         doc.asks("marks()", LockRail::marks);
         doc.says("NONE: by none.");
         doc.is("known too little", -1, Due.rail(marked(10, 9, "mark price 1 known 88;", any)).marks());
@@ -393,6 +415,9 @@ public final class PlaceSentencesTest {
         seen.option(2, 3);
         doc.is("whatever is marked now", -500_000, seen.hides(2));
         doc.is("whatever is marked now, the first", 0, seen.hides(0));
+        LockRail first = Due.rail(String.format(base, "60"));
+        first.option(0, 3);
+        doc.is("though it is taken now, as the first is marked", -500_000, first.hides(1));
         doc.is("one alone", 0, Due.rail("rail places 1 nights 1;bike worth 1 seems 1 at 0;thief tool 0 comes 100 fears 0 any;mark price 1 known 100 hidden;").hides(0));
         for (int bike = 0; bike < 3; bike++) {
             int one = bike;

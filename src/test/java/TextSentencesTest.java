@@ -49,6 +49,22 @@ public final class TextSentencesTest {
         return which < tokens.size() ? at : at - 1;
     }
 
+    /** The LINES' words: with another letter anywhere, one more, or one less, none of them is that word. */
+    private static void words(String before, String line) {
+        List<String> tokens = Arrays.asList(line.split(" "));
+        for (int i = 0; i < tokens.size(); i++) {
+            String word = tokens.get(i);
+            if (!Character.isLetter(word.charAt(0))) continue;
+            List<String> others = new ArrayList<>(List.of(word + "z", word + "a", "a" + word, word.substring(1), word.substring(0, word.length() - 1)));
+            for (int j = 0; j < word.length(); j++) others.add(word.substring(0, j) + (word.charAt(j) == 'q' ? 'x' : 'q') + word.substring(j + 1));
+            for (String other : others) {
+                List<String> changed = new ArrayList<>(tokens);
+                changed.set(i, other);
+                spoilt(before, changed, i);
+            }
+        }
+    }
+
     private static void spoilt(String before, List<String> tokens, int firstWrong) {
         fault(before + String.join(" ", tokens), 1, placeOf(before, tokens, firstWrong));
     }
@@ -57,6 +73,7 @@ public final class TextSentencesTest {
     private static void form(String before, String line) {
         List<String> tokens = Arrays.asList(line.split(" "));
         stands(before + line);
+        words(before, line);
         for (int i = 0; i < tokens.size(); i++) {
             String token = tokens.get(i);
             boolean aCut = line.startsWith("lock") && i >= 4 && i <= 6;
@@ -521,8 +538,10 @@ public final class TextSentencesTest {
         x.rail();
         doc.is("no hidden marks of the other", 9, x.gain(0));
         x.rail();
-        doc.is("none in its place", 0, x.count(6));
-        doc.is("no RAIL", -2, x.part(0));
+        for (int what = 0; what <= 12; what++) doc.is("none in its place: count(" + what + ")", 0, x.count(what));
+        doc.is("no RAIL: part(0)", -2, x.part(0));
+        doc.is("no RAIL: light(0)", -2, x.light(0));
+        doc.is("no RAIL: bike(0, 0)", -2, x.bike(0, 0));
 
         doc.says("how many LINES;");
         StringBuilder full = new StringBuilder("rail places 20 nights 60;" + bikes(10) + MARK + WATCH);
@@ -540,6 +559,7 @@ public final class TextSentencesTest {
             LockRail y = Due.rail(whole);
             y.watch(true);
             y.run(1);
+            y.penny();
             Due.feed(y, text);
             y.rail();
             doc.is("count(9)", 0, y.count(9));
