@@ -558,7 +558,8 @@ public final class LockRail {
             return NONE_SUCH;
         }
         Rail kept = images[image];
-        if (kept == null) {
+        // An image may have been kept when there was no RAIL: then there is none to go to.
+        if (kept == null || !kept.isTold()) {
             return NONE_SUCH;
         }
         int here = netTaken(rail, thief);

@@ -301,6 +301,14 @@ public final class OtherSentencesTest {
         }
         none.rail();
         doc.is("no RAIL, and so no THIEF", -2, none.rather(0, 1));
+        none.keep(2);
+        none.back(1);
+        doc.is("gone back to", 0, none.rather(0, 1));
+        doc.refused("no RAIL there to go to", -2, none, y -> y.rather(0, 2));
+        doc.is("nor for one who takes nothing here", -2, ratherThere(bike(0, "", thief), ""));
+        doc.is("nor for one who has no BIKES here", -2, ratherThere(ONLY_RAIL + "thief tool 0 comes 1 fears 0 best;", ""));
+        none.keep(2);
+        doc.is("a RAIL there in its place", 0, none.rather(0, 2));
         doc.is("no RAIL", -2, new LockRail().rather(0, 0));
     }
 

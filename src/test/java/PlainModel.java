@@ -760,7 +760,7 @@ public final class PlainModel {
     public int laws() { return noRail() ? -2 : leastOf(-1, w.locks.size(), this::law); }
 
     public int rather(int t, int image) {
-        if (noThief(t) || !in(image, 3) || images[image] == null) return -2;
+        if (noThief(t) || !in(image, 3) || images[image] == null || images[image].lines == 0) return -2;
         Thief thief = w.thieves.get(t);
         World there = images[image];
         int a = w.takes(thief, Set.of(), -1), b = there.takes(thief, Set.of(), -1);
